@@ -1083,6 +1083,8 @@ public final class PepperTables {
         static final int NUMBER_CODE = 128;
 
         static final int LONGEST_WORD = 8;
+        /** A word is one number, a byte a letter: eight fill a long. */
+        static final int LETTER_BASE = 256;
         static final int LONGEST_NUMBER = 4;
         static final int MOST_UNITS = 60;
         static final int MOST_UNITS_IN_ONE = 30;
@@ -1110,14 +1112,9 @@ public final class PepperTables {
                 if (WORDS.charAt(i) == ' ') {
                     word++;
                 } else {
-                    words[word] = longer(words[word], WORDS.charAt(i));
+                    words[word] = words[word] * LETTER_BASE + WORDS.charAt(i);
                 }
             }
-        }
-
-        /** A word as one number; the empty one is 0. */
-        private static long longer(long word, int letter) {
-            return word * 27 + (letter - 'a' + 1);
         }
 
         void addNumber(int bytes) {
@@ -1142,14 +1139,6 @@ public final class PepperTables {
 
         // -- tokens
 
-        private static boolean isLetter(int sign) {
-            return sign >= 'a' && sign <= 'z';
-        }
-
-        private static boolean isDigit(int sign) {
-            return sign >= '0' && sign <= '9';
-        }
-
         private void step() {
             while (at < length && at < MOST_BYTES && (text[at] == ' ' || text[at] == '\n')) {
                 at++;
@@ -1157,9 +1146,9 @@ public final class PepperTables {
             place = at;
             if (at >= length || at >= MOST_BYTES) {
                 kind = END;
-            } else if (isLetter(text[at])) {
+            } else if (text[at] >= 'a' && text[at] <= 'z') {
                 stepWord();
-            } else if (isDigit(text[at])) {
+            } else if (text[at] >= '0' && text[at] <= '9') {
                 stepNumber();
             } else if (SIGNS.indexOf((char) text[at]) >= 0) {
                 kind = text[at];
@@ -1171,30 +1160,26 @@ public final class PepperTables {
 
         private void stepWord() {
             name = 0;
-            while (at < length && at < MOST_BYTES && isLetter(text[at])) {
-                // Past the longest word its number no longer matters, only that it is too long.
-                name = at - place < LONGEST_WORD ? longer(name, text[at]) : name;
+            while (at < length && at < MOST_BYTES && text[at] >= 'a' && text[at] <= 'z') {
+                // It may wrap in a word that is too long, which is broken whatever its number is.
+                name = name * LETTER_BASE + text[at];
                 at++;
             }
-            kind = at - place > LONGEST_WORD ? BROKEN : kindOfWord();
-        }
-
-        private int kindOfWord() {
-            for (int i = 0; i < WORD_COUNT; i++) {
+            kind = at - place > LONGEST_WORD ? BROKEN : NAME;
+            for (int i = 0; i < WORD_COUNT && kind == NAME; i++) {
                 if (words[i] == name) {
-                    return FIRST_WORD + i;
+                    kind = FIRST_WORD + i;
                 }
             }
-            return NAME;
         }
 
         private void stepNumber() {
             number = 0;
-            while (at < length && at < MOST_BYTES && isDigit(text[at])) {
-                number = at - place < LONGEST_NUMBER ? number * 10 + (text[at] - '0') : number;
+            while (at < length && at < MOST_BYTES && text[at] >= '0' && text[at] <= '9') {
+                number = number * 10 + (text[at] - '0');
                 at++;
             }
-            boolean letterBehind = at < length && at < MOST_BYTES && isLetter(text[at]);
+            boolean letterBehind = at < length && at < MOST_BYTES && text[at] >= 'a' && text[at] <= 'z';
             kind = letterBehind || at - place > LONGEST_NUMBER ? BROKEN : NUMBER;
         }
 
@@ -1640,32 +1625,28 @@ public final class PepperTables {
             inputs[COURSE] = state.course;
         }
 
-        /** By the sack that was set up. */
+        /** Whether the formula is not 0, in the sack that was set up. */
         boolean passes(Told told, int thing, int shy) {
             inputs[HOT] = told.hot[thing];
             inputs[SHY] = shy;
-            return worth(told) != 0;
-        }
-
-        private int worth(Told told) {
             int height = 0;
             for (int i = 0; i < told.codeLength && i < Told.MOST_CODE; i++) {
                 int code = told.code[i];
-                if (code == Reader.WORD_NOT) {
-                    if (height > 0) {
-                        stack[height - 1] = truth(stack[height - 1] == 0);
-                    }
-                } else if (isOperand(code)) {
+                if (isOperand(code)) {
                     if (height < MOST_STACK) {
                         stack[height] = operand(code);
                         height++;
+                    }
+                } else if (code == Reader.WORD_NOT) {
+                    if (height > 0) {
+                        stack[height - 1] = stack[height - 1] == 0 ? 1 : 0;
                     }
                 } else if (height > 1) {
                     height--;
                     stack[height - 1] = joined(code, stack[height - 1], stack[height]);
                 }
             }
-            return height > 0 ? stack[height - 1] : 0;
+            return height > 0 && stack[height - 1] != 0;
         }
 
         private static boolean isOperand(int code) {
@@ -1679,15 +1660,15 @@ public final class PepperTables {
         private static int joined(int code, int left, int right) {
             switch (code) {
                 case Reader.WORD_OR:
-                    return truth(left != 0 || right != 0);
+                    return (left != 0 || right != 0) ? 1 : 0;
                 case Reader.WORD_AND:
-                    return truth(left != 0 && right != 0);
+                    return (left != 0 && right != 0) ? 1 : 0;
                 case '<':
-                    return truth(left < right);
+                    return left < right ? 1 : 0;
                 case '>':
-                    return truth(left > right);
+                    return left > right ? 1 : 0;
                 case '=':
-                    return truth(left == right);
+                    return left == right ? 1 : 0;
                 case '+':
                     return left + right;
                 case '-':
@@ -1701,10 +1682,6 @@ public final class PepperTables {
                 default:
                     return 0;
             }
-        }
-
-        private static int truth(boolean is) {
-            return is ? 1 : 0;
         }
     }
 
@@ -1906,6 +1883,7 @@ public final class PepperTables {
             return left;
         }
 
+        /** All people are at the table, so every thing is among them. */
         private void reckon(Told told, Mill mill) {
             if (isReckoned) {
                 return;
@@ -1913,14 +1891,14 @@ public final class PepperTables {
             int places = told.sacks + 1;
             rowCount = told.things >= 2 ? places * places : places;
             scene.begin(told);
-            scene.sits = told.allPeople();
             for (int row = 0; row < rowCount; row++) {
                 scene.where[told.things - 1] = placeIn(row, places, true);
                 if (told.things >= 2) {
                     scene.where[told.things - 2] = placeIn(row, places, false);
                 }
                 for (int sack = 0; sack < told.sacks; sack++) {
-                    outs[row * MOST_SACKS + sack] = Integer.bitCount(mill.letOut(told, scene, sack));
+                    int out = mill.passing(told, scene, sack, told.people, told.allThings());
+                    outs[row * MOST_SACKS + sack] = Integer.bitCount(out);
                 }
             }
             isReckoned = true;
