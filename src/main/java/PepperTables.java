@@ -878,7 +878,7 @@ public final class PepperTables {
             weight *= told.sacks;
         }
         int rest = row;
-        for (int i = 0; i < n && weight > 0; i++) {
+        for (int i = 0; i < n && weight > 0 && told.sacks > 0; i++) {
             lying.add(rest / weight);
             rest %= weight;
             weight /= told.sacks;

@@ -10,6 +10,7 @@ public final class HeardTest {
         asking();
         asTold();
         oneThing();
+        tenThings();
         without();
         later();
         CHECK.close();
@@ -151,6 +152,23 @@ public final class HeardTest {
         x.heard(1, 1, true);
         CHECK.due("the last", x.sure(0, 0), 1);
         CHECK.due("ask", x.ask(0, 0), 0);
+    }
+
+    private static void tenThings() {
+        StringBuilder text = new StringBuilder("person a;person b;sack r;sack s;");
+        for (char c = 'a'; c < 'k'; c++) {
+            text.append("thing ").append(c).append(" by a to b hot 1 in r;");
+        }
+        PepperTables x = Check.of(text.toString());
+        CHECK.due("rows", x.rows(0), 9);
+        CHECK.due("ask", x.ask(0, 0), 0);
+        CHECK.due("left", x.ask(1, 0), 4);
+        x.heard(0, 10, true);
+        CHECK.due("rows", x.rows(0), 1);
+        for (int i = 0; i < 3; i++) {
+            CHECK.due("left", x.ask(1, 0), 1);
+        }
+        CHECK.due("the last", x.sure(0, 0), 0);
     }
 
     private static void without() {

@@ -17,6 +17,7 @@ public final class QuestionsTest {
         fewestSacks();
         sends();
         hides();
+        hideAmongNine();
         pairsAndRumours();
         gains();
         feasts();
@@ -222,6 +223,17 @@ public final class QuestionsTest {
         CHECK.due("others", x.hide(0, 1), 0);
         x = of("person a;person b;thing t by a to b hot 4;", 0, 1);
         CHECK.due("no sacks", x.hide(0, 0), -1);
+    }
+
+    private static void hideAmongNine() {
+        StringBuilder text = new StringBuilder("person a;person b;sack r;said hot > 1;");
+        for (char c = 'a'; c < 'k'; c++) {
+            text.append("thing ").append(c).append(" by a to b hot ").append(c == 'd' ? 1 : 2).append(" in r;");
+        }
+        PepperTables x = of(text.toString(), 0, 1);
+        CHECK.due("where it is", x.hide(3, 0), 0);
+        CHECK.due("nine others", x.hide(3, 1), 9);
+        CHECK.due("one of these", x.hide(0, 1), -1);
     }
 
     private static void pairsAndRumours() {

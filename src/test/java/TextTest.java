@@ -7,6 +7,7 @@ public final class TextTest {
         tape();
         storeReplaces();
         faultKeepsAll();
+        cutTape();
         tokens();
         places();
         counts();
@@ -147,6 +148,26 @@ public final class TextTest {
         CHECK.due("tape behind '" + shown + "'", x.about(11), fault == 0 ? 0 : text.length());
     }
 
+    /** What was cut off the tape is not looked at. */
+    private static void cut(String text, int length, int fault, int place) {
+        PepperTables x = new PepperTables();
+        Check.feed(x, text);
+        x.end(length);
+        CHECK.due("store of the first " + length + " of '" + text + "'", x.store() == -1, fault != 0);
+        CHECK.due("fault(0)", x.fault(0), fault);
+        CHECK.due("fault(1)", x.fault(1), place);
+    }
+
+    private static void cutTape() {
+        cut("draw 5x", 6, 2, 6);
+        cut("draw 512", 6, 2, 6);
+        cut("sack abc", 6, 2, 6);
+        cut("sack abcdefghi", 13, 2, 13);
+        cut("draw 12345", 9, 4, 5);
+        cut("draw 5;?", 7, 0, -1);
+        cut("draw 5;sack", 7, 0, -1);
+    }
+
     private static void tokens() {
         fault("", 0, -1);
         fault(" \n ", 0, -1);
@@ -169,6 +190,9 @@ public final class TextTest {
         fault("draw 12345;", 1, 5);
         fault("draw 5x;", 1, 5);
         fault("draw 5 x;", 2, 7);
+        fault("draw 5a;", 1, 5);
+        fault("draw 5z;", 1, 5);
+        fault("draw 5A;", 1, 6);
         fault("person a;person b;sack s;thing t by a to b hot 5in s;", 1, 47);
         fault("person a;person b;sack s;thing t by a to b hot5in s;", 1, 46);
         fault("person a;person b;sack s;thing t by a to b hot5 in s;", 0, -1);
