@@ -19,6 +19,8 @@ public final class PepperTables {
     private static final int MOST_ROUNDS = 4;
     private static final int MOST_TRIES = 9;
     private static final int BOX_COUNT = 3;
+    /** In a score one thing more counts for more than all heat: ten things are 90 hot at the most. */
+    private static final int COUNT_WEIGHT = 1000;
 
     private final Reader reader;
     private Told told;
@@ -44,7 +46,7 @@ public final class PepperTables {
         boxes = new Boxes();
         lying = new Lying();
         hearsay = new Hearsay();
-        scores = new int[MOST_SACKS * (MOST_ROUNDS + 1)];
+        scores = new int[MOST_SACKS * MOST_ROUNDS];
         firstGains = new int[4];
         otherGains = new int[4];
     }
@@ -336,7 +338,7 @@ public final class PepperTables {
             }
         }
         layRow(best, n);
-        return what == 0 ? bestScore / Mill.COUNT_WEIGHT : bestScore % Mill.COUNT_WEIGHT;
+        return what == 0 ? bestScore / COUNT_WEIGHT : bestScore % COUNT_WEIGHT;
     }
 
     /** Promise 20. */
@@ -466,12 +468,13 @@ public final class PepperTables {
         if (what < 0 || what > 2) {
             return NONE;
         }
-        int most = Integer.bitCount(mill.letOutOfAll(told, now));
+        int out = mill.letOutOfAll(told, now);
+        int most = Integer.bitCount(out);
         int first = NONE;
         int second = NONE;
         for (int one = 0; one < told.things; one++) {
             for (int other = one + 1; other < told.things; other++) {
-                int count = saidIfExchanged(one, other);
+                int count = saidIfExchanged(one, other, out);
                 if (count > most) {
                     first = one;
                     second = other;
@@ -845,12 +848,9 @@ public final class PepperTables {
     private void scoreGrindings(int n) {
         trial.copyFrom(now);
         for (int sack = 0; sack < told.sacks; sack++) {
-            int from = sack * (MOST_ROUNDS + 1);
-            scores[from] = 0;
-            for (int times = 1; times <= n; times++) {
+            for (int times = 0; times < n && times < MOST_ROUNDS; times++) {
                 int out = mill.turn(told, trial, sack);
-                int score = Integer.bitCount(out) * Mill.COUNT_WEIGHT + told.heatOf(out);
-                scores[from + times] = scores[from + times - 1] + score;
+                scores[sack * MOST_ROUNDS + times] = Integer.bitCount(out) * COUNT_WEIGHT + told.heatOf(out);
             }
         }
     }
@@ -858,16 +858,15 @@ public final class PepperTables {
     /** A row of n sacks is a number of n digits to the base of how many sacks there are: rising is by numbers. */
     private int scoreOfRow(int row, int n) {
         int score = 0;
-        for (int sack = 0; sack < told.sacks; sack++) {
-            int times = 0;
-            int rest = row;
-            for (int i = 0; i < n; i++) {
-                if (rest % told.sacks == sack) {
-                    times++;
-                }
-                rest /= told.sacks;
-            }
-            score += scores[sack * (MOST_ROUNDS + 1) + times];
+        int rest = row;
+        // Four bits a sack: how often it was met.
+        int met = 0;
+        for (int i = 0; i < n && i < MOST_ROUNDS && told.sacks > 0; i++) {
+            int sack = rest % told.sacks;
+            rest /= told.sacks;
+            int times = (met >> (4 * sack)) & 15;
+            score += scores[sack * MOST_ROUNDS + times];
+            met += 1 << (4 * sack);
         }
         return score;
     }
@@ -885,7 +884,8 @@ public final class PepperTables {
         }
     }
 
-    private int saidIfExchanged(int one, int other) {
+    /** How many; out is what all sacks let out as it is, which stays so in the sacks that have no part in it. */
+    private int saidIfExchanged(int one, int other, int out) {
         int here = now.where[one];
         int there = now.where[other];
         if (!isKept(one) || !isKept(other) || here == NONE || there == NONE || here == there) {
@@ -894,7 +894,8 @@ public final class PepperTables {
         trial.copyFrom(now);
         trial.where[one] = there;
         trial.where[other] = here;
-        return Integer.bitCount(mill.letOutOfAll(told, trial));
+        int elsewhere = out & ~(now.keptIn(told, here) | now.keptIn(told, there));
+        return Integer.bitCount(elsewhere | mill.letOut(told, trial, here) | mill.letOut(told, trial, there));
     }
 
     /** Choice 0 .. 3: the first one's sitting is its upper bit, the other one's the lower. */
@@ -1549,8 +1550,6 @@ public final class PepperTables {
 
     /** Grinding: which things a sack lets out. */
     static final class Mill {
-        /** One thing more counts for more than all heat: ten things are 90 hot at the most. */
-        static final int COUNT_WEIGHT = 1000;
         /** No formula has more units than this. */
         static final int MOST_STACK = 64;
 
