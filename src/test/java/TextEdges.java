@@ -364,7 +364,7 @@ final class TextEdges {
     private void staysBehind() {
         PepperTables x = new PepperTables();
         String full = Edges.lines("person # shy 7;", 6) + Edges.lines("sack #;", 5) + Edges.lines("thing # by b to a hot 3 in e;", 10)
-                + "said 0 or 0;sneeze 90;draw 88;";
+                + "said not not (0 or 0) and 0;sneeze 90;draw 88;";
         String small = "person a;person b;sack s;thing t by a to b hot 1;";
         for (int i = 0; i < 9; i++) {
             Check.feed(x, full + (i % 3 == 1 ? "?" : ""));
