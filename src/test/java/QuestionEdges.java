@@ -48,6 +48,7 @@ final class QuestionEdges {
         t.nexts();
         t.odds();
         t.lying();
+        t.full();
     }
 
     private void nothingIsDone() {
@@ -816,5 +817,77 @@ final class QuestionEdges {
         e.due("what lay there is gone", x.lies(2), -1);
         x.line();
         e.lie(x, 5, 0);
+    }
+
+    /** As much of everything as can be: all sit, each sack holds two and lets both out. */
+    private void full() {
+        e.terms("At most 6 PEOPLE (shy 0 .. 9, 0 if not told), 5 SACKS, 10 THINGS");
+        PepperTables x = Edges.of(Edges.lines("person #;", 6) + Edges.lines("sack #;", 5)
+                + "thing a by a to b hot 1 in a;thing b by b to c hot 2 in a;thing c by c to d hot 3 in b;thing d by d to e hot 4 in b;"
+                + "thing e by e to f hot 5 in c;thing f by f to a hot 6 in c;thing g by a to c hot 7 in d;thing h by b to d hot 8 in d;"
+                + "thing i by c to e hot 9 in e;thing j by f to b hot 9 in e;", 0, 1, 2, 3, 4, 5);
+        fullOfPeople(x);
+        fullOfSacks(x);
+        fullOfHeard(x);
+        for (int sack = 0; sack < 5; sack++) {
+            e.due("grind", x.grind(sack), 3 << (2 * sack));
+        }
+        e.due("d to e to f to b to c", x.rumour(3, 2), 4);
+        e.due("scandal", x.scandal(), 54);
+        e.due("pairs", x.pairs(), 0);
+        e.due("said to b", x.person(1, 4), 513);
+    }
+
+    private void fullOfPeople(PepperTables x) {
+        e.due("kept by f", x.person(5, 2), 544);
+        e.due("kept to b", x.person(1, 3), 513);
+        e.due("from f to b", x.keeps(5, 1), 9);
+        e.due("dupe", x.dupe(), 4);
+        e.due("closest", x.closest(), 0);
+        e.due("near", x.near(), 1023);
+        e.due("next", x.next(), 8);
+        e.due("gain", x.gain(5), 5);
+        e.due("invite", x.invite(0), -1);
+        e.due("line", x.line(), 6);
+        e.lie(x, 0, 1, 2, 3, 4, 5);
+        e.due("rank", x.rank(), 6);
+        e.lie(x, 5, 2, 1, 0, 4, 3);
+        e.due("feast", x.feast(0, 1), 1);
+        e.lie(x, 0, 0);
+    }
+
+    private void fullOfSacks(PepperTables x) {
+        e.due("round", x.round(4, 0), 8);
+        e.lie(x, 1, 2, 3, 4);
+        e.due("round", x.round(4, 1), 51);
+        e.due("fewest", x.fewest(1), 31);
+        e.due("fewest", x.fewest(2), 1023);
+        e.due("storm", x.storm(), 54);
+        e.due("idle", x.idle(), 0);
+        e.due("mute", x.mute(), 0);
+        e.due("hottest", x.hottest(), 4);
+        e.due("table", x.table(768, 4, 1), 54);
+        e.due("send", x.send(4, 1), 6);
+        e.due("spark", x.spark(4), 0);
+        e.due("spine", x.spine(4), 0);
+        e.due("blend", x.blend(0, 4), 4);
+        e.due("law", x.law(4, 99), 2);
+        e.due("exchange", x.exchange(0), -1);
+        e.due("hide", x.hide(9, 0), -1);
+        e.due("shyest", x.shyest(9), 8);
+        e.due("after", x.after(9), 1);
+    }
+
+    private void fullOfHeard(PepperTables x) {
+        e.due("rows", x.rows(0), 36);
+        e.due("ask", x.ask(0, 0), 0);
+        e.due("ask", x.ask(1, 0), 25);
+        e.due("sure", x.sure(0, 0), -2);
+        for (int i = 0; i < 30; i++) {
+            e.due("heard", x.heard(4, i % 3, true), i);
+        }
+        e.due("both in the last", x.rows(0), 1);
+        e.due("sure", x.sure(0, 0), 4);
+        e.due("sure", x.sure(1, 0), 4);
     }
 }
