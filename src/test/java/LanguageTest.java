@@ -3,6 +3,8 @@ import com.sun.source.tree.CompilationUnitTree;
 import com.sun.source.tree.MemberSelectTree;
 import com.sun.source.tree.MethodInvocationTree;
 import com.sun.source.tree.MethodTree;
+import com.sun.source.tree.NewArrayTree;
+import com.sun.source.tree.NewClassTree;
 import com.sun.source.tree.Tree;
 import com.sun.source.tree.VariableTree;
 import com.sun.source.util.JavacTask;
@@ -10,6 +12,7 @@ import com.sun.source.util.SourcePositions;
 import com.sun.source.util.TreeScanner;
 import com.sun.source.util.Trees;
 import java.io.IOException;
+import java.lang.reflect.Array;
 import java.lang.reflect.Constructor;
 import java.lang.reflect.Field;
 import java.lang.reflect.Method;
@@ -18,6 +21,7 @@ import java.nio.file.Files;
 import java.nio.file.Path;
 import java.util.HashMap;
 import java.util.HashSet;
+import java.util.IdentityHashMap;
 import java.util.List;
 import java.util.Map;
 import java.util.Set;
@@ -42,6 +46,9 @@ public final class LanguageTest {
     private static final int MOST_CLASSES = 12;
     private static final int MOST_FIELDS = 20;
     private static final int MOST_DEPTH = 8;
+    /** A run may make an object for each of 512 calls, and all of them are in one room: this leaves most of it free. */
+    private static final int MOST_OBJECTS = 600000 / 512 / 4;
+    private static final int MOST_CELLS = 7300000 / 512 / 3;
 
     private static final Map<String, Set<String>> CALLS = new TreeMap<>();
     private static final Map<String, Integer> DEPTHS = new HashMap<>();
@@ -50,7 +57,46 @@ public final class LanguageTest {
         words();
         face();
         shapes();
+        room();
         CHECK.close();
+    }
+
+    private static void room() {
+        Map<Object, Integer> cells = new IdentityHashMap<>();
+        measure(new PepperTables(), cells);
+        int sum = cells.values().stream().mapToInt(Integer::intValue).sum();
+        CHECK.due("an object is " + cells.size() + " objects", cells.size() <= MOST_OBJECTS, true);
+        CHECK.due("an object has " + sum + " fields and elements", sum <= MOST_CELLS, true);
+    }
+
+    /** Fields or elements of an object and of all that it holds, each object once. */
+    private static void measure(Object o, Map<Object, Integer> cells) {
+        if (o == null || cells.containsKey(o)) {
+            return;
+        }
+        if (o.getClass().isArray()) {
+            CHECK.due("an array of numbers", o.getClass().getComponentType().isPrimitive(), true);
+            cells.put(o, Array.getLength(o));
+            return;
+        }
+        cells.put(o, 0);
+        int count = 0;
+        for (Field f : o.getClass().getDeclaredFields()) {
+            if (!Modifier.isStatic(f.getModifiers())) {
+                count++;
+                measure(f.getType().isPrimitive() ? null : valueOf(f, o), cells);
+            }
+        }
+        cells.put(o, count);
+    }
+
+    private static Object valueOf(Field f, Object o) {
+        try {
+            f.setAccessible(true);
+            return f.get(o);
+        } catch (IllegalAccessException e) {
+            throw new IllegalStateException(e);
+        }
     }
 
     private static void words() throws IOException {
@@ -220,7 +266,26 @@ public final class LanguageTest {
             long to = unit.getLineMap().getLineNumber(positions.getEndPosition(unit, tree));
             CHECK.due(method + " has " + (to - from + 1) + " lines", to - from < MOST_LINES, true);
             CHECK.due(method + " has parameters", tree.getParameters().size() <= MOST_PARAMETERS, true);
-            return super.visitMethod(tree, none);
+            super.visitMethod(tree, none);
+            method = "";
+            return null;
+        }
+
+        @Override
+        public Void visitNewClass(NewClassTree tree, Void none) {
+            madeAtFirstOnly(tree);
+            return super.visitNewClass(tree, none);
+        }
+
+        @Override
+        public Void visitNewArray(NewArrayTree tree, Void none) {
+            madeAtFirstOnly(tree);
+            return super.visitNewArray(tree, none);
+        }
+
+        /** What calls make is counted over a whole run, so they make nothing. */
+        private void madeAtFirstOnly(Tree tree) {
+            CHECK.due(method + " makes " + tree, method.isEmpty() || method.equals("<init>"), true);
         }
 
         @Override
